@@ -72,6 +72,7 @@ public final class MakingTest {
         make 8 0, make 8 6, copy 8 1 0, copy 8 2 0, reversed 8 1, part 8 1 0 0 = !ISE
         shifted 8 1 0, ofMap 8 0 1, ofMap 8 0 8, combine 8 9 0 1 = !ISE
         make 10 0, make 8 1, copy 8 0 0, reversed 8 7, part 8 9 0 0, ofMap 8 0 9 = !IAE
+        ofMap 8 1 1, combine 8 8 0 1, shifted 8 9 1 = !IAE
         part 8 1 0 1 = !IOOBE
         size 8 = !IAE
         hold 8 7 = 9            # makes no NODE
@@ -440,15 +441,20 @@ public final class MakingTest {
         combine 5 9 0 4 = 6
         show 5 = 1 2 3 12 13
         shifted 6 4 100 = 7
-        about 5 2, about 6 2 = 6
+        reversed 7 4 = 8
+        part 8 4 1 2 = 9
+        about 5 2, about 6 2, about 7 2, about 8 2 = 6
         show 6 = 112 113
+        show 7 = 13 12
+        show 8 = 13
+        hold 7 -1 = -1
         reversed 7 6, part 7 6 0 1, shifted 7 6 1, combine 7 9 6 0, combine 7 9 0 6 = !ISE
         combine 7 9 5 0, combine 7 9 0 5 = !ISE
         part 7 6 0 3, part 7 6 2 1 = !IOOBE     # before the LIMITS
         size 7 = !IAE
-        copy 7 1 6 = 8          # a copy is low again
+        copy 7 1 6 = 10         # a copy is low again
         about 7 2 = 1
-        reversed 8 7 = 9
+        reversed 8 7 = 11
         """);
   }
 

@@ -73,6 +73,11 @@ public final class ReadingTest {
         combine 7 9 6 2 = 8
         combine 8 9 2 6 = 9
         combine 9 11 7 2 = !ISE
+        shifted 9 3 100 = 10    # 24 more for a UNION to write
+        combine 9 9 9 1 = 11
+        size 9 = 48
+        at 9 23 = 123
+        at 9 24 = 24
         size 6 = 48
         size 7, size 8 = 72
         at 7 71 = 71
@@ -153,6 +158,14 @@ public final class ReadingTest {
             alike 5 0, alike 0 5, alike 5 4 = false
             copy 4 1 5 = 14
             alike 4 5, alike 5 4 = true         # both empty
+            hold 4 1 = 1
+            put 0 0 9 = 4
+            alike 0 4 = false                   # the first alone is another
+            put 0 0 4 = 9
+            alike 0 4 = true
+            put 0 3 9 = 1
+            alike 0 4 = false                   # the last alone
+            put 0 3 1 = 9
             alike -1 0, alike 0 -1, alike 10 0, alike 0 10 = !IAE
             hold 5 -1 = -1
             alike 0 5, alike 5 0, alike 5 5 = !IAE
