@@ -10,6 +10,12 @@ final class Calls {
     }
   }
 
+  /** How many calls of the face there were behind an answer. */
+  static int count(String name, String answer) {
+    boolean many = name.equals("show") && !answer.isEmpty() && !answer.startsWith("throws.");
+    return many ? 1 + answer.split(" ").length : 1;
+  }
+
   private static String call(LiveCollections x, String name, int[] a) {
     return switch (name) {
       case "make" -> "" + x.make(a[0], a[1]);
