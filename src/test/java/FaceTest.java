@@ -7,11 +7,11 @@ import java.util.TreeSet;
 
 /** The class has the document's public face, and nothing else of it can be seen from outside. */
 public final class FaceTest {
-  private static final String IAE = " IllegalArgumentException";
-  private static final String ISE = " IllegalStateException";
-  private static final String IOOBE = " IndexOutOfBoundsException";
-  private static final String NSEE = " NoSuchElementException";
-  private static final String UOE = " UnsupportedOperationException";
+  private static final String IAE = " java.lang.IllegalArgumentException";
+  private static final String ISE = " java.lang.IllegalStateException";
+  private static final String IOOBE = " java.lang.IndexOutOfBoundsException";
+  private static final String NSEE = " java.util.NoSuchElementException";
+  private static final String UOE = " java.lang.UnsupportedOperationException";
 
   private static final Set<String> FACE =
       Set.of(
@@ -59,8 +59,9 @@ public final class FaceTest {
 
   private static void checkConstructors(Constructor<?>[] constructors) {
     check(constructors.length == 1, "there is one constructor");
-    check(Modifier.isPublic(constructors[0].getModifiers()), "the constructor is public");
+    check(constructors[0].getModifiers() == Modifier.PUBLIC, "the constructor is public");
     check(constructors[0].getParameterCount() == 0, "the constructor takes nothing");
+    check(constructors[0].getExceptionTypes().length == 0, "the constructor throws nothing");
   }
 
   private static void checkMethods(Method[] methods) {
@@ -70,8 +71,7 @@ public final class FaceTest {
       if (!Modifier.isPrivate(method.getModifiers())) {
         face.add(signature(method));
         names.add(method.getName());
-        check(Modifier.isPublic(method.getModifiers()), method.getName() + " is public");
-        check(!Modifier.isStatic(method.getModifiers()), method.getName() + " is not static");
+        check(method.getModifiers() == Modifier.PUBLIC, method.getName() + " is public alone");
       }
     }
     check(face.equals(FACE), "the face is the document's, not " + face);
@@ -89,7 +89,7 @@ public final class FaceTest {
       check(parameter == int.class, method.getName() + " takes ints");
     }
     for (Class<?> thrown : method.getExceptionTypes()) {
-      text.append(' ').append(thrown.getSimpleName());
+      text.append(' ').append(thrown.getName());
     }
     return text.toString();
   }

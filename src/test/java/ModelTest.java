@@ -10,6 +10,9 @@ import java.util.TreeMap;
 public final class ModelTest {
   private static final int RUNS = 4000;
   private static final int MOST_CALLS = 512;
+
+  // A call, and a look at up to 72 ELEMENTS with their size.
+  private static final int MOST_IN_A_TURN = 74;
   private static final int ENOUGH = 200;
 
   private static final String[] MAKERS = {
@@ -27,6 +30,9 @@ public final class ModelTest {
 
   // What each call threw, or that it answered: counted, to see that the runs come everywhere.
   private static final Map<String, Integer> SEEN = new TreeMap<>();
+
+  // One wrong run in full is enough to read: where many are wrong, it is mostly for one cause.
+  private static boolean told;
 
   private long seed;
   private LiveCollections program;
@@ -61,7 +67,7 @@ public final class ModelTest {
     int making = 5 + below(30);
     int changing = 20 + below(40);
     boolean rising = below(3) == 0;
-    while (calls < MOST_CALLS - 60) {
+    while (calls <= MOST_CALLS - MOST_IN_A_TURN) {
       int lot = below(100);
       boolean looks = lot >= making + changing;
       String[] names = lot < making ? MAKERS : looks ? LOOKERS : CHANGERS;
@@ -92,7 +98,8 @@ public final class ModelTest {
     }
     log.add(text + " = " + due);
     SEEN.merge(name + " " + (due.startsWith("throws.") ? due : "answers"), 1, Integer::sum);
-    if (!got.equals(due)) {
+    if (!got.equals(due) && !told) {
+      told = true;
       System.out.println("a run ended with " + got + " where the last row's answer is due:");
       log.forEach(line -> System.out.println("  " + line));
     }
